@@ -1,0 +1,93 @@
+/** Counts the answers that are not due, for the tests; a test ends by Due.end(). */
+final class Due {
+    static final int INVALID = -1;
+    static final int ILLEGAL = -2;
+    static final int FULL = -3;
+    static final int NONE = -9;
+
+    private static int asked = 0;
+    private static int wrong = 0;
+
+    private Due() {
+    }
+
+    static void due(String call, long got, long want) {
+        asked++;
+        if (got != want) {
+            wrong++;
+            System.out.println(call + " answered " + got + ", due is " + want + where());
+        }
+    }
+
+    static void due(String call, boolean isSo) {
+        due(call, isSo ? 1 : 0, 1);
+    }
+
+    static void end() {
+        System.out.println(asked + " answers, " + wrong + " of them not as due");
+        if (wrong != 0 || asked == 0) {
+            System.exit(1);
+        }
+    }
+
+    private static String where() {
+        for (StackTraceElement element : new Throwable().getStackTrace()) {
+            if (!element.getClassName().equals("Due")) {
+                return " (" + element.getFileName() + ":" + element.getLineNumber() + ")";
+            }
+        }
+        return "";
+    }
+
+    /** A new object with so many servers. */
+    static EvenLoads servers(int servers) {
+        EvenLoads x = new EvenLoads();
+        for (int i = 0; i < servers; i++) {
+            x.addServer();
+        }
+        return x;
+    }
+
+    /** Appends a text, sign by sign. */
+    static EvenLoads type(EvenLoads x, String text) {
+        for (char sign : text.toCharArray()) {
+            x.append(sign);
+        }
+        return x;
+    }
+
+    /** Types a text and runs it; its servers and jobs are those that stand already. */
+    static int runText(EvenLoads x, String text) {
+        x.clearText();
+        return type(x, text).run();
+    }
+
+    /** All that can be looked at of the state, without the text and the number of states. */
+    static String picture(EvenLoads x) {
+        StringBuilder picture = new StringBuilder();
+        for (int what = 0; what <= 12; what++) {
+            picture.append(x.count(what)).append(' ');
+        }
+        for (int server = 0; server < x.count(0); server++) {
+            picture.append('|');
+            for (int what = 0; what <= 4; what++) {
+                picture.append(x.server(server, what)).append(' ');
+            }
+        }
+        for (int job = 0; job < x.count(2); job++) {
+            picture.append('|');
+            for (int what = 0; what <= 3; what++) {
+                picture.append(x.job(job, what)).append(' ');
+            }
+        }
+        return picture.toString();
+    }
+
+    static void same(String call, String got, String want) {
+        asked++;
+        if (!got.equals(want)) {
+            wrong++;
+            System.out.println(call + where() + "\n  is  " + got + "\n  due " + want);
+        }
+    }
+}
