@@ -60,6 +60,7 @@ public final class LookingTest {
         x.finish(2);
         Due.due("17 the greatest size", x.count(7), 5);
         x.finish(3);
+        Due.due("17 all are finished", x.count(3), 4);
         Due.due("17 no job that is not finished", x.count(7), 0);
         Due.due("17 target", x.count(8), 0);
         Due.due("17 even", x.count(9), 1);
@@ -131,6 +132,8 @@ public final class LookingTest {
     private static void serverShares() {
         EvenLoads x = Due.servers(1);
         Due.due("18 of nothing", x.server(0, 3), 0);
+        x.add(1, 0, 0);
+        Due.due("18 of the least sum", x.server(0, 3), 1000);
         EvenLoads y = Due.servers(6);
         for (int job = 0; job < 24; job++) {
             y.add(1000, 0, 5);

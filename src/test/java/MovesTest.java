@@ -17,6 +17,7 @@ public final class MovesTest {
         closeChecks();
         open();
         undo();
+        undoOfEachAction();
         undoKeepsText();
         Due.end();
     }
@@ -352,6 +353,39 @@ public final class MovesTest {
         x.setBudget(7);
         Due.due("13 one again", x.undo(), 0);
         Due.same("13 the state before", Due.picture(x), pictures[2]);
+    }
+
+    /** Behind a change, so that no older state can pass for the one before the action. */
+    private static void undoOfEachAction() {
+        for (int action = 0; action < 12; action++) {
+            EvenLoads x = three();
+            x.add(40, 3, 0);
+            x.add(50, 3, 0);
+            x.close(3);
+            x.setBudget(300 + action);
+            String before = Due.picture(x);
+            Due.due("13 the action " + action, act(x, action) >= 0);
+            Due.due("13 changes something", !Due.picture(x).equals(before));
+            Due.due("13 undo()", x.undo(), 4);
+            Due.same("13 the state before the action " + action, Due.picture(x), before);
+        }
+    }
+
+    private static int act(EvenLoads x, int action) {
+        return switch (action) {
+            case 0 -> x.addServer();
+            case 1 -> x.add(1, 1, 1);
+            case 2 -> x.finish(1);
+            case 3 -> x.setBudget(9);
+            case 4 -> x.setFactor(200);
+            case 5 -> x.move(0, 1);
+            case 6 -> x.exchange(0, 1);
+            case 7 -> x.ring(0, 1, 2);
+            case 8 -> x.even(2);
+            case 9 -> x.close(2);
+            case 10 -> x.open(3);
+            default -> Due.runText(x, "f0;m1 2;");
+        };
     }
 
     private static void undoKeepsText() {

@@ -179,6 +179,16 @@ public final class OutlookTest {
         steps(x, 1, 1, 2, 7);
         x.setBudget(6);
         noSteps(x);
+        EvenLoads y = Due.servers(2);
+        y.add(10, 1, 0);
+        y.add(4, 60, 0);
+        y.add(1, 1, 1);
+        y.add(2, 1, 1);
+        y.setFactor(100);
+        // 14 and 3: 4 goes best (10 and 7), for 60. The exchange of 10 by 2 makes 6 and 11 only.
+        steps(y, 1, 1, Due.NONE, 60);
+        y.setBudget(59);
+        steps(y, 0, 1, 3, 2);
     }
 
     private static void noStep() {
