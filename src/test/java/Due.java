@@ -1,3 +1,5 @@
+import java.util.Set;
+
 /** Counts the answers that are not due, for the tests; a test ends by Due.end(). */
 final class Due {
     static final int INVALID = -1;
@@ -5,6 +7,12 @@ final class Due {
     static final int FULL = -3;
     static final int NONE = -9;
 
+    /** The classes of which no line is told as that of a wrong answer, as they ask for others. */
+    private static final Set<String> HELPERS = Set.of("Due", "Told", "Sentence");
+
+    private static final int MOST_SHOWN = 20;
+
+    private static String about = "";
     private static int asked = 0;
     private static int wrong = 0;
 
@@ -14,13 +22,22 @@ final class Due {
     static void due(String call, long got, long want) {
         asked++;
         if (got != want) {
-            wrong++;
-            System.out.println(call + " answered " + got + ", due is " + want + where());
+            show(call + " answered " + got + ", due is " + want);
         }
     }
 
     static void due(String call, boolean isSo) {
         due(call, isSo ? 1 : 0, 1);
+    }
+
+    /** What is told before each wrong answer from now on. */
+    static void about(String text) {
+        about = text;
+    }
+
+    /** How many answers were tested so far. */
+    static int asked() {
+        return asked;
     }
 
     static void end() {
@@ -30,9 +47,17 @@ final class Due {
         }
     }
 
+    /** Counts a wrong answer, and shows the first ones: those behind them seldom tell more. */
+    private static void show(String text) {
+        wrong++;
+        if (wrong <= MOST_SHOWN) {
+            System.out.println(about + text + where());
+        }
+    }
+
     private static String where() {
         for (StackTraceElement element : new Throwable().getStackTrace()) {
-            if (!element.getClassName().equals("Due")) {
+            if (!HELPERS.contains(element.getClassName())) {
                 return " (" + element.getFileName() + ":" + element.getLineNumber() + ")";
             }
         }
@@ -86,8 +111,7 @@ final class Due {
     static void same(String call, String got, String want) {
         asked++;
         if (!got.equals(want)) {
-            wrong++;
-            System.out.println(call + where() + "\n  is  " + got + "\n  due " + want);
+            show(call + "\n  is  " + got + "\n  due " + want);
         }
     }
 }
