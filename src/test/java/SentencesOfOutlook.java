@@ -126,6 +126,10 @@ final class SentencesOfOutlook {
         answers(three + " close(2)", "fewest", Due.NONE, Due.NONE);
         answers(three + " close(2) open(2)", "fewest", 1, 1);
         answers(three + " close(2) close(1)", "fewest", 0, 0);
+        // Wherever the servers stand among those that are closed: 20 on the last one, and 20 that go to the last one.
+        answers("3*addServer() 2*add(10, 1, 2) close(0)", "fewest", 1, 1);
+        answers("4*addServer() 2*add(10, 1, 0) close(1) close(2)", "fewest", 1, 1);
+        answers("6*addServer() 2*add(10, 1, 5)", "fewest", 1, 1);
         // Finished jobs do not move: the cheap one is finished.
         answers(two + "add(10, 0, 0) 2*add(10, 5, 0) finish(0)", "fewest", 1, 5);
     }
@@ -147,6 +151,8 @@ final class SentencesOfOutlook {
         Sentence.of(23, FEWEST);
         // 15, 8 and 6 with the bound 10: 5 must leave the server 0, and 3 the server 1, which is not full, for it.
         answers("3*addServer() add(10, 9, 0) add(5, 2, 0) add(5, 50, 1) add(3, 4, 1) add(6, 50, 2) setFactor(100)", "fewest", 2, 6);
+        // The same where 3 is the job of the smallest number.
+        answers("3*addServer() add(3, 4, 1) add(10, 9, 0) add(5, 2, 0) add(5, 50, 1) add(6, 50, 2) setFactor(100)", "fewest", 2, 6);
         // Two jobs that change places, as 17 and 17 come in no other way.
         answers(EXCHANGE, "fewest", 2, 6);
         // Two jobs that follow one another: 10 to the server 1, and the 4 from there to the server 2.

@@ -80,6 +80,9 @@ final class TermsOfPlans {
         Sentence.row("2*addServer() 2*add(5, 0, 0) add(4, 0, 1) setFactor(100)=7 step(0)=0 step(1)=1 plan(0)=1");
         Sentence.row("2*addServer() 2*add(5, 0, 0) add(5, 0, 1) setFactor(100)=8 step(0)=NONE plan(0)=0 even(1)=0");
         Sentence.row("2*addServer() 2*add(5, 0, 0) add(6, 0, 1) setFactor(100)=8 step(0)=NONE plan(0)=0 even(1)=0");
+        // As large as the load is not smaller, be it for less than a step that was chosen before.
+        Sentence.row("2*addServer() add(5, 3, 0) add(5, 4, 0) step(3)=3 finish(0) add(5, 1, 0) add(5, 0, 1) setFactor(100)=8"
+                + " step(0)=NONE plan(0)=0 even(1)=0");
         // 12 has but one job, which can only change its place; the bound is 12 by it.
         Sentence.row("2*addServer() add(12, 0, 0) setFactor(100)=12 step(0)=NONE");
     }
@@ -137,6 +140,10 @@ final class TermsOfPlans {
         // 14, 13 and 12: 7 by 6 of the server 2 makes 13, and by 6 of the server 1 it makes 14.
         Sentence.row("3*addServer() 2*add(7, 0, 0) add(6, 0, 1) add(7, 0, 1) 2*add(6, 0, 2) setFactor(100)=13 step(0)=0"
                 + " step(1)=2 step(2)=4");
+        // 14 and 3: 4 makes 10, for 60; if that is too much, 10 by 2 makes 11, though it is more than 10.
+        String move = "2*addServer() add(10, 1, 0) add(4, 60, 0) add(1, 1, 1) add(2, 1, 1) setFactor(100)=10";
+        Sentence.row(move + " setBudget(60) step(0)=1 step(2)=NONE step(3)=60 setBudget(59) step(0)=0 step(1)=1 step(2)=3"
+                + " step(3)=2 plan(0)=2 plan(1)=3 even(1)=1 count(5)=11");
         // The full server is 2; it gives more than it takes.
         Sentence.row("3*addServer() 2*add(6, 0, 0) 2*add(6, 0, 1) 2*add(7, 0, 2) setFactor(100)=13 step(0)=4 step(1)=0"
                 + " step(2)=0 even(1)=1 job(4, 2)=0 job(0, 2)=2 count(5)=13");
@@ -152,6 +159,9 @@ final class TermsOfPlans {
                 + " even(1)=0");
         Sentence.row("2*addServer() 2*add(8, 0, 0) add(4, 0, 1) add(7, 0, 1) setFactor(100)=14 step(0)=0 step(2)=2"
                 + " plan(3)=15");
+        // 13 and 8: 4 goes for 60; 9 by 4, for 2, makes 4 and 4 to 13 again.
+        String dear = "2*addServer() add(4, 60, 0) add(9, 1, 0) 2*add(4, 1, 1) setFactor(100)=11";
+        Sentence.row(dear + " setBudget(59) step(0)=NONE plan(0)=0 even(1)=0 setBudget(60) step(0)=0 step(2)=NONE");
         // Jobs of one size change nothing: 16 stay 16.
         Sentence.row("2*addServer() 2*add(8, 0, 0) add(8, 0, 1) setFactor(100)=12 step(0)=NONE");
     }
