@@ -11,12 +11,30 @@ final class Due {
     private static final Set<String> HELPERS = Set.of("Due", "Told", "Sentence");
 
     private static final int MOST_SHOWN = 20;
+    /** Far above what any test takes, so that a call that does not end fails its test. */
+    private static final long MOST_MILLISECONDS = 300_000;
 
-    private static String about = "";
+    private static volatile String about = "";
     private static int asked = 0;
     private static int wrong = 0;
 
+    static {
+        Thread watch = new Thread(Due::endTooLate);
+        watch.setDaemon(true);
+        watch.start();
+    }
+
     private Due() {
+    }
+
+    private static void endTooLate() {
+        try {
+            Thread.sleep(MOST_MILLISECONDS);
+            System.out.println(about + "a call does not end");
+        } catch (InterruptedException stopped) {
+            System.out.println(about + "the watch was stopped");
+        }
+        Runtime.getRuntime().halt(2);
     }
 
     static void due(String call, long got, long want) {
