@@ -55,9 +55,22 @@ public final class FaceTest {
                 Due.due("a name of its own: " + method.getName(), !names.contains(method.getName()));
             }
         }
+        inside(names);
         Constructor<?>[] constructors = EvenLoads.class.getDeclaredConstructors();
         Due.due("constructors", constructors.length, 1);
         Due.due("its parameters", constructors[0].getParameterCount(), 0);
         Due.due("public constructor", Modifier.isPublic(constructors[0].getModifiers()));
+    }
+
+    /** The classes inside: what they are, and that their methods bear none of the names of the face. */
+    private static void inside(Set<String> names) {
+        for (Class<?> inner : EvenLoads.class.getDeclaredClasses()) {
+            int modifiers = inner.getModifiers();
+            boolean isHidden = !Modifier.isPublic(modifiers) && !Modifier.isProtected(modifiers);
+            Due.due("static and not seen from outside: " + inner.getName(), Modifier.isStatic(modifiers) && isHidden);
+            for (Method method : inner.getDeclaredMethods()) {
+                Due.due("a name of its own: " + method.getName(), !names.contains(method.getName()));
+            }
+        }
     }
 }

@@ -1,7 +1,12 @@
 import java.io.IOException;
 import java.nio.file.Files;
 import java.nio.file.Path;
+import java.util.ArrayList;
 import java.util.List;
+import java.util.Map;
+import java.util.Set;
+import java.util.TreeMap;
+import java.util.TreeSet;
 import java.util.regex.Matcher;
 import java.util.regex.Pattern;
 
@@ -19,8 +24,12 @@ public final class LanguageTest {
     private static final int MOST_PARAMETERS = 7;
     private static final int MOST_CLASSES = 12;
     private static final int MOST_FIELDS = 20;
+    private static final int MOST_DEPTH = 8;
+    /** The only method that may call itself; its depth is an argument. */
+    private static final String RECURSIVE = "cheapest";
     private static final Pattern METHOD =
             Pattern.compile("^( {4}| {8})(public |private )?(static )?[A-Za-z\\[\\]]+( \\w+)?\\((.*)\\) \\{$");
+    private static final Pattern CALLED = Pattern.compile("\\b(\\w+)\\(");
     private static final Pattern INDEX = Pattern.compile("\\w\\[\\w+\\]");
 
     public static void main(String[] args) throws IOException {
@@ -30,6 +39,7 @@ public final class LanguageTest {
         methods(code);
         classes(code);
         indices(code);
+        calls(bodies(code));
         Due.end();
     }
 
@@ -98,5 +108,49 @@ public final class LanguageTest {
             }
         }
         Due.due("7 places that use an index: at, put, states twice", used, 4);
+    }
+
+    /** The lines of each method by its name; those of methods of the same name together. */
+    private static Map<String, List<String>> bodies(List<String> code) {
+        Map<String, List<String>> bodies = new TreeMap<>();
+        for (int i = 0; i < code.size(); i++) {
+            Matcher method = METHOD.matcher(code.get(i));
+            if (method.matches() && method.group(4) != null) {
+                int end = code.subList(i, code.size()).indexOf(method.group(1) + "}");
+                List<String> body = code.subList(i + 1, i + Math.max(end, 1));
+                bodies.computeIfAbsent(method.group(4).strip(), name -> new ArrayList<>()).addAll(body);
+            }
+        }
+        return bodies;
+    }
+
+    /** How deep calls go, that one method alone calls itself, and that none makes an object or an array. */
+    private static void calls(Map<String, List<String>> bodies) {
+        Due.due("bodies are found", bodies.size() >= FACE_METHODS);
+        for (String name : bodies.keySet()) {
+            Due.due("11 calls from " + name + " on", depth(name, bodies, Set.of()) <= MOST_DEPTH);
+            boolean makes = bodies.get(name).stream().anyMatch(line -> line.matches(".*(\\bnew\\b|\\.clone\\().*"));
+            Due.due("12 what " + name + " makes", !makes);
+        }
+    }
+
+    /** The most calls that stand open at once from a method on; far too many if they come back to it. */
+    private static int depth(String name, Map<String, List<String>> bodies, Set<String> open) {
+        if (open.contains(name)) {
+            return MOST_DEPTH + 1;
+        }
+        Set<String> inside = new TreeSet<>(open);
+        inside.add(name);
+        int deepest = 0;
+        for (String line : bodies.get(name)) {
+            Matcher called = CALLED.matcher(line);
+            while (called.find()) {
+                boolean isItself = name.equals(RECURSIVE) && called.group(1).equals(name);
+                if (bodies.containsKey(called.group(1)) && !isItself) {
+                    deepest = Math.max(deepest, depth(called.group(1), bodies, inside));
+                }
+            }
+        }
+        return deepest + 1;
     }
 }
